@@ -28,7 +28,7 @@ public final class ShakenParcels {
     private static final int SETS = 1 << MOST_THINGS;
     private static final int WHOLE_SET = SETS - 1;
 
-    /** No parcel with as many things as told answers more than 49, so 64 tells all answers apart. */
+    /** No parcel with as many things as told answers more than 58, a false weight in it too, so 64 tells all answers apart. */
     private static final int REPLIES = 64;
 
     /** Far above the steps that any two longs need. */
@@ -211,7 +211,7 @@ public final class ShakenParcels {
             int world = list.take(i);
             long chance = tree.chanceOf(world);
             together += chance;
-            if ((inside(world, p) & 1 << t) != 0) {
+            if ((inside(world, p) & (1 << t)) != 0) {
                 with += chance;
             }
         }
@@ -309,12 +309,12 @@ public final class ShakenParcels {
         if (!isParcel(p) || !isBelow(what, 2)) {
             return BAD;
         }
-        Worlds list = findRemaining();
+        finder.countSets(findRemaining(), p);
+        finder.countReplies(tree, p, WEIGH);
         int best = 0;
         int most = 0;
         for (int weight = 0; weight < 10; weight++) {
-            int reply = tree.reply(p, WEIGH, inside(now.truth, p), weight);
-            int fitting = list.fitting(tree, p, WEIGH, reply);
+            int fitting = at(finder.byReply, tree.reply(p, WEIGH, inside(now.truth, p), weight));
             if (fitting > most) {
                 best = weight;
                 most = fitting;
@@ -437,7 +437,7 @@ public final class ShakenParcels {
 
     private int parcelWith(int t) {
         for (int p = 0; p < tree.parcels; p++) {
-            if ((inside(now.truth, p) & 1 << t) != 0) {
+            if ((inside(now.truth, p) & (1 << t)) != 0) {
                 return p;
             }
         }
@@ -520,12 +520,12 @@ public final class ShakenParcels {
     }
 
     private static int inside(int world, int p) {
-        return world >>> MOST_THINGS * p & WHOLE_SET;
+        return (world >>> (MOST_THINGS * p)) & WHOLE_SET;
     }
 
     private static int swapped(int world, int p, int q) {
         int unlike = inside(world, p) ^ inside(world, q);
-        return world ^ unlike << MOST_THINGS * p ^ unlike << MOST_THINGS * q;
+        return world ^ (unlike << (MOST_THINGS * p)) ^ (unlike << (MOST_THINGS * q));
     }
 
     private static int trialOf(int p, int sort) {
@@ -763,7 +763,7 @@ public final class ShakenParcels {
             if (!isBelow(p, parcels) || !isBelow(t, things.amount)) {
                 return false;
             }
-            told |= 1 << MOST_THINGS * p + t;
+            told |= 1 << (MOST_THINGS * p + t);
             return true;
         }
 
@@ -886,9 +886,9 @@ public final class ShakenParcels {
             }
             for (int high = 0; high < tree.things.amount; high++) {
                 for (int low = 0; low <= high; low++) {
-                    int set = 1 << high | 1 << low;
+                    int set = (1 << high) | (1 << low);
                     if ((set & used) == 0 && Integer.bitCount(set) == at(tree.room, p)) {
-                        addWorlds(tree, list, p + 1, used | set, world | set << MOST_THINGS * p);
+                        addWorlds(tree, list, p + 1, used | set, world | (set << (MOST_THINGS * p)));
                     }
                 }
             }
@@ -939,16 +939,6 @@ public final class ShakenParcels {
                 }
             }
             return false;
-        }
-
-        int fitting(Tree tree, int p, int sort, int reply) {
-            int found = 0;
-            for (int i = 0; i < size; i++) {
-                if (tree.reply(p, sort, inside(take(i), p), 0) == reply) {
-                    found++;
-                }
-            }
-            return found;
         }
 
         /** Keeps those by which the trial is answered so. */
@@ -1066,6 +1056,7 @@ public final class ShakenParcels {
         /** Where the worlds of each answer begin; one more, where the last ones end. */
         private final int[] starts = new int[REPLIES + 1];
         private final int[] known = new int[REPLIES];
+        private final int[] replyOfSet = new int[SETS];
 
         /** The first trial that leaves fewest worlds at the worst. */
         void choose(Tree tree, Worlds list) {
@@ -1074,7 +1065,7 @@ public final class ShakenParcels {
             for (int p = 0; p < tree.parcels; p++) {
                 countSets(list, p);
                 for (int sort = 0; sort < SORTS; sort++) {
-                    int most = mostOfOneReply(tree, p, sort);
+                    int most = countReplies(tree, p, sort);
                     if (most < worst) {
                         trial = trialOf(p, sort);
                         worst = most;
@@ -1083,14 +1074,15 @@ public final class ShakenParcels {
             }
         }
 
-        private void countSets(Worlds list, int p) {
+        void countSets(Worlds list, int p) {
             Arrays.fill(bySet, 0);
             for (int i = 0; i < list.size; i++) {
                 raise(bySet, inside(list.take(i), p), 1);
             }
         }
 
-        private int mostOfOneReply(Tree tree, int p, int sort) {
+        /** How the worlds whose sets were counted answer; answers how many of them do alike at the most. */
+        int countReplies(Tree tree, int p, int sort) {
             Arrays.fill(byReply, 0);
             int most = 0;
             for (int set = 1; set < bySet.length; set++) {
@@ -1183,10 +1175,10 @@ public final class ShakenParcels {
         /** Puts the worlds in order by the answer of a trial. */
         private void group(Tree tree, Worlds list, Worlds grouped, int by) {
             int p = parcelOf(by);
-            int sort = sortOf(by);
+            listReplies(tree, p, sortOf(by));
             Arrays.fill(starts, 0);
             for (int i = 0; i < list.size; i++) {
-                raise(starts, tree.reply(p, sort, inside(list.take(i), p), 0), 1);
+                raise(starts, at(replyOfSet, inside(list.take(i), p)), 1);
             }
             for (int reply = 1; reply < starts.length; reply++) {
                 starts[reply] += starts[reply - 1];
@@ -1194,9 +1186,16 @@ public final class ShakenParcels {
             grouped.copy(list);
             for (int i = 0; i < list.size; i++) {
                 int world = list.take(i);
-                int reply = tree.reply(p, sort, inside(world, p), 0);
+                int reply = at(replyOfSet, inside(world, p));
                 raise(starts, reply, -1);
                 grouped.set(at(starts, reply), world);
+            }
+        }
+
+        /** There are far fewer sets than worlds, so each set is asked once. */
+        private void listReplies(Tree tree, int p, int sort) {
+            for (int set = 1; set < 1 << tree.things.amount; set++) {
+                put(replyOfSet, set, tree.reply(p, sort, set, 0));
             }
         }
 

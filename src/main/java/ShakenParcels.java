@@ -1183,6 +1183,7 @@ public final class ShakenParcels {
             for (int reply = 1; reply < starts.length; reply++) {
                 starts[reply] += starts[reply - 1];
             }
+            // each of its places is written over, but it has to be as long
             grouped.copy(list);
             for (int i = 0; i < list.size; i++) {
                 int world = list.take(i);

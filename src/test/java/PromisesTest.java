@@ -187,6 +187,9 @@ public final class PromisesTest {
         faults("d100;", 0);
         faults("g-1;", 0);
         faults("g1.", 0);
+        faults("d:;", 0);
+        faults("d/;", 0);
+        faults("d1:;", 0);
         faults("t1,,0,1;", 0);
         faults("d1;g0;g0;", 3);
         faults("g1;".repeat(66) + "g1", 198);
@@ -251,7 +254,10 @@ public final class PromisesTest {
         String apart = "t1,0,9,1;t1,0,0,1;p0,0,1;p0,1,1;i0,0;i1,1;";
         due("the last apart", Checks.lay(x, apart + "d0;d9;"), 2);
         due("the last apart again", Checks.lay(x, apart + "d9;d0;"), NO);
-        due("40 apart without", Checks.lay(x, "t1,0,9,1;t1,0,9,1;t1,0,9,1;t1,0,9,1;t1,0,0,1;p0,0,2;p0,0,2;p0,1,1;i0,0;i0,1;i1,2;i1,3;i2,4;"), 30);
+String most = "t1,0,9,1;t1,0,9,1;t1,0,9,1;t1,0,9,1;t1,0,%d,1;t1,0,0,1;t1,0,0,1;p0,0,2;p0,0,2;p0,0,2;p0,1,1;"
+                + "i0,0;i0,1;i1,2;i1,3;i2,4;i2,5;i3,6;";
+        due("just 40 apart without", Checks.lay(x, String.format(most, 4)), 630);
+        due("41 apart without", Checks.lay(x, String.format(most, 5)), NO);
     }
 
     private static void thing() {

@@ -1,13 +1,23 @@
 /** What the tests share: counting what is not as due, and writing texts. */
 final class Checks {
+    private final String name;
     private int done = 0;
     private int wrong = 0;
+
+    Checks() {
+        this("");
+    }
+
+    /** What is wrong is told with the name ahead of it. */
+    Checks(String name) {
+        this.name = name;
+    }
 
     void due(String what, long got, long want) {
         done++;
         if (got != want) {
             wrong++;
-            System.out.println(what + " answered " + got + ", due is " + want);
+            System.out.println(name + what + " answered " + got + ", due is " + want);
         }
     }
 
@@ -15,15 +25,31 @@ final class Checks {
         due(what, so ? 1 : 0, 1);
     }
 
+    /** The answers of a row of calls at once. */
+    void row(String what, long[] got, long... want) {
+        due(what + " how many", got.length, want.length);
+        for (int i = 0; i < Math.min(got.length, want.length); i++) {
+            due(what + " [" + i + "]", got[i], want[i]);
+        }
+    }
+
+    static long[] all(long... got) {
+        return got;
+    }
+
     void addTo(Checks other) {
         other.done += done;
         other.wrong += wrong;
     }
 
+    boolean failed() {
+        return wrong != 0 || done == 0;
+    }
+
     /** Prints how it went and ends with 1 if something was wrong. */
     void end() {
         System.out.println(done + " checks, " + wrong + " wrong");
-        if (wrong != 0 || done == 0) {
+        if (failed()) {
             System.exit(1);
         }
     }

@@ -56,8 +56,12 @@ final class Edges {
 
     /** Runs each of them by itself; answers the names of those that fail. */
     List<String> failing(Checks all) {
+        return failing(all, list);
+    }
+
+    private static List<String> failing(Checks all, List<Edge> some) {
         List<String> names = new ArrayList<>();
-        for (Edge edge : list) {
+        for (Edge edge : some) {
             Checks due = new Checks(edge.name() + ": ");
             try {
                 edge.body.run(due);
@@ -70,6 +74,12 @@ final class Edges {
             due.addTo(all);
         }
         return names;
+    }
+
+    /** Whether one of a promise, whose name has a part like that, fails. */
+    static boolean oneFails(int promise, String part) {
+        List<Edge> some = all().list.stream().filter(edge -> edge.promise == promise && edge.name().contains(part)).toList();
+        return !failing(new Checks(), some).isEmpty();
     }
 
     /** Each edge quotes the document, and no word of the document is left without one. */

@@ -95,8 +95,10 @@ final class KeptEdges {
             for (int i = 0; i < 8; i++) {
                 x.undo();
             }
-            x.attempt(1, 2);
-            due.row("others", all(x.count(3), x.seconds(), x.judge()), 5, 85, Edges.NONE);
+            for (int i = 0; i < 8; i++) {
+                x.attempt(0, 3);
+            }
+            due.row("others", all(x.count(3), x.seconds(), x.judge()), 12, 160, Edges.NONE);
             due.row("as they were", all(x.back(), x.count(3), x.seconds(), x.judge(), x.left()), 0, 12, 230, 11, 0);
         });
         e.edge(30, KEPT, "not the text", due -> {

@@ -30,7 +30,7 @@ public final class Mutants {
         {"true", "false"}, {"false", "true"}, {"Math.max", "Math.min"}, {"Math.min", "Math.max"}, {"Math.abs", ""}, {"(!", "("}, {"~", ""},
         {"BAD", "NO"}, {"BAD", "NONE"}, {"NO", "BAD"}, {"NO", "NONE"}, {"FULL", "BAD"}, {"FULL", "NO"}, {"NONE", "BAD"}, {"NONE", "NO"},
         {"SOFT", "SLIDING"}, {"SLIDING", "ROLLING"}, {"ROLLING", "SLIDING"}, {"WEIGH", "TIP"},
-        {"at(now.hidden, p)", "0"}, {"now.truth", "tree.told"}, {"findRemaining()", "all"}, {"now.copy", "now.equals"}};
+        {"at(now.hidden, p)", "0"}, {"now.truth", "tree.told"}, {"findRemaining()", "all"}};
 
     private record Mutant(int number, int line, String before, String after) {
         @Override

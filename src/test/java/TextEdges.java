@@ -33,9 +33,10 @@ final class TextEdges {
             x.attempt(0, 0);
             x.hide(0, 9);
             x.keep();
-            Checks.lay(x, Edges.PAIR);
             due.row("the other one", Edges.counts(y), 4, 2, 12, 0, 0, 0, 0);
             due.due("its false weight", y.parcel(0, 4), 0);
+            Checks.lay(x, Edges.PAIR);
+            due.row("the other one again", Edges.counts(y), 4, 2, 12, 0, 0, 0, 0);
         });
         e.edge(1, "An object is used for at most 512 calls after it has been made; what later calls answer is free.", "the 512th is answered as due", due -> {
             ShakenParcels x = new ShakenParcels();
@@ -122,6 +123,9 @@ final class TextEdges {
             ShakenParcels x = new ShakenParcels();
             Checks.write(x, LONGEST);
             due.row("without an end", all(x.fault(), x.write(';'), x.fault(), x.count(6)), 198, FULL, 198, 200);
+            ShakenParcels y = new ShakenParcels();
+            Checks.write(y, "d40;".repeat(50));
+            due.row("nor in place of the last one", all(y.write('x'), y.fault(), y.count(6)), FULL, NONE, 200);
         });
         e.edge(2, "BAD; FULL.", "a letter that is BAD does not come", due -> {
             ShakenParcels x = new ShakenParcels();

@@ -64,6 +64,11 @@ final class ToTryEdges {
             ShakenParcels y = Checks.laid(Edges.TWINS);
             due.row("twins", all(y.next(0), y.next(1)), 0, 2);
         });
+        e.edge(20, words, "of what is LEFT now", due -> {
+            ShakenParcels x = Checks.laid("t1,0,0,1;t1,1,0,1;t1,2,0,1;t2,0,0,1;t3,1,0,1;t4,2,0,1;p0,0,1;i0,0;");
+            // tipping tells most, then weighing
+            due.row("tipped", all(x.next(0), x.attempt(0, 1), x.left(), x.next(0), x.next(1)), 1, 0, 2, 0, 1);
+        });
         e.edge(20, words, "false weights are in no world", due -> {
             ShakenParcels x = Checks.laid(Edges.PAIR);
             x.hide(0, 9);

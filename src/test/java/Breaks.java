@@ -100,7 +100,12 @@ final class Breaks {
         broken(5, "worlds that are too far apart are none", "if (tree.isFair(world)) {", "if (world != 0) {");
         broken(5, "it counts once", "told |= 1 << (MOST_THINGS * p + t);", "told ^= 1 << (MOST_THINGS * p + t);");
         broken(5, "things that are alike are still two", "if ((set & used) == 0 && ", "if (high > 0 && (set & used) == 0 && ");
-        broken(5, "nothing of the trees that were is left", "            firm = 0;\n", "");
+        String before = "nothing of the trees that were is left";
+        broken(5, before, "            firm = 0;\n", "");
+        broken(5, before, "            rolling = 0;\n", "");
+        broken(5, before, "            sliding = 0;\n", "");
+        broken(5, before, "            Arrays.fill(noticed, 0);\n", "");
+        broken(5, before, "            Arrays.fill(lasting, 10);\n", "            if (at(lasting, 0) == 0) { Arrays.fill(lasting, 10); }\n");
         broken(5, "no answers", "now.begin(tree.told);", "now.truth = tree.told;");
         broken(5, "what was changed is as told again", "truth = told;", "truth = truth == 0 ? told : truth;");
     }

@@ -221,8 +221,10 @@ final class LayEdges {
     private static void nothingChanges(Edges e) {
         e.edge(5, "LAID: how many WORLDS", "nothing of the trees that were is left, however many there were", due -> {
             ShakenParcels x = new ShakenParcels();
-            for (int i = 0; i < 4; i++) {
-                due.due("firm things", Checks.lay(x, "t9,1,9,9;t9,2,9,9;p9,1,2;i0,0;i0,1;g9;d9;n0,9,60;n1,9,60;n2,9,60;n3,9,60;"), 1);
+            for (int many = 1; many <= 3; many++) {
+                for (int i = 0; i < many; i++) {
+                    due.due("firm things", Checks.lay(x, "t9,1,9,9;t9,2,9,9;p9,1,2;i0,0;i0,1;g9;n0,9,60;n1,9,60;"), 1);
+                }
                 due.due("soft ones", Checks.lay(x, Edges.PAIR), 2);
                 due.row("their answers", all(x.answer(0, 0, 3), x.answer(0, 1, 3), x.answer(0, 2, 3), x.answer(0, 3, 3)), 3, 0, 0, 1);
                 x.attempt(0, 0);

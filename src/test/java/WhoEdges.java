@@ -107,6 +107,8 @@ final class WhoEdges {
             ShakenParcels x = Checks.laid("t1,0,5,1;t1,0,1,1;t1,0,1,1;t1,0,1,1;p0,1,1;p0,0,1;p0,0,1;p0,0,1;i0,0;i1,1;i2,2;i3,3;");
             // 3 to 5 in 6 worlds, 7 to 1 in 18
             due.row("each", all(x.more(0), x.more(1), x.more(2)), 18, 0, 6);
+            ShakenParcels y = Checks.laid("t1,0,5,1;t1,0,1,1;t1,0,1,1;t1,0,1,1;p0,0,1;p0,0,1;p0,0,1;p0,1,1;i0,0;i1,1;i2,2;i3,3;");
+            due.row("parcel 3 is", all(y.more(0), y.more(1), y.more(2)), 18, 0, 6);
         });
         e.edge(26, words, "a child without parcels gets nothing", due -> {
             ShakenParcels x = Checks.laid("t1,0,0,1;t1,0,1,1;p0,1,1;i0,0;");

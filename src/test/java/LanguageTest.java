@@ -1,5 +1,3 @@
-import java.io.PrintWriter;
-import java.io.StringWriter;
 import java.lang.reflect.Field;
 import java.lang.reflect.Modifier;
 import java.nio.file.Files;
@@ -12,7 +10,6 @@ import java.util.Set;
 import java.util.TreeSet;
 import java.util.regex.Matcher;
 import java.util.regex.Pattern;
-import java.util.spi.ToolProvider;
 
 /** The rules of ../shared/LANGUAGE.md that can be seen from what the class is compiled to, and how long its methods are. */
 public final class LanguageTest {
@@ -24,6 +21,7 @@ public final class LanguageTest {
             "java/lang/Math.min", "java/lang/Math.abs", "java/lang/Integer.compare", "java/lang/Integer.bitCount", "java/lang/System.arraycopy", "java/util/Arrays.fill");
     private static final Set<String> FORBIDDEN = Set.of("athrow", "monitorenter", "monitorexit", "invokedynamic", "invokeinterface", "checkcast", "instanceof",
             "multianewarray", "jsr", "ret");
+    private static final Pattern CALLED = Pattern.compile("(?:Interface)?Method ([^:]*):.*");
 
     private static final Checks CHECKS = new Checks();
     private static final Map<String, Set<String>> CALLS = new HashMap<>();
@@ -33,12 +31,12 @@ public final class LanguageTest {
     private LanguageTest() { }
 
     public static void main(String[] args) throws Exception {
-        List<Class<?>> classes = new ArrayList<>(List.of(ShakenParcels.class.getDeclaredClasses()));
-        classes.add(ShakenParcels.class);
-        CHECKS.holds("rule 11: some twelve classes", classes.size() <= 12);
-        for (Class<?> one : classes) {
+        CHECKS.holds("rule 11: some twelve classes", Compiled.classes().size() <= 12);
+        for (Class<?> one : Compiled.classes()) {
             fields(one);
-            code(one);
+        }
+        for (Compiled.Code method : Compiled.methods()) {
+            code(method);
         }
         calls();
         makers();
@@ -62,48 +60,32 @@ public final class LanguageTest {
         CHECKS.holds("rule 11: some twenty fields: " + one, own <= 20);
     }
 
-    private static String javap(Class<?> one) throws Exception {
-        Path place = Path.of(one.getProtectionDomain().getCodeSource().getLocation().toURI());
-        StringWriter text = new StringWriter();
-        ToolProvider.findFirst("javap").orElseThrow().run(new PrintWriter(text), new PrintWriter(text), "-c", "-p", "-cp", place.toString(), one.getName());
-        return text.toString();
-    }
-
-    /** Reads each method's instructions; notes whom it calls. */
-    private static void code(Class<?> one) throws Exception {
-        String owner = one.getName();
-        Pattern header = Pattern.compile("^  (?:[a-z]+ )*(?:\\S+ )?([\\w$]+)\\((.*)\\);$");
-        Pattern step = Pattern.compile("^ +\\d+: (\\w+)(?: .*// (?:Interface)?Method (.*))?.*$");
-        String method = "";
-        for (String line : javap(one).split("\n")) {
-            Matcher head = header.matcher(line);
-            Matcher code = step.matcher(line);
-            if (head.matches()) {
-                method = owner + "." + (head.group(1).equals(owner) ? "<init>" : head.group(1));
-                CALLS.computeIfAbsent(method, m -> new TreeSet<>());
-                if (line.contains("private static ")) {
-                    LONE.add(method);
-                }
-            } else if (code.matches()) {
-                look(owner, method, code.group(1), code.group(2));
-            }
-            CHECKS.holds("rule 6: no try: " + method, !line.contains("Exception table"));
+    /** Looks at each of a method's instructions; notes whom it calls. */
+    private static void code(Compiled.Code method) {
+        CALLS.computeIfAbsent(method.whole(), m -> new TreeSet<>());
+        CHECKS.holds("rule 6: no try: " + method.whole(), !method.catching());
+        if (method.lone()) {
+            LONE.add(method.whole());
+        }
+        for (Compiled.Step step : method.steps()) {
+            look(method, step);
         }
     }
 
-    private static void look(String owner, String method, String step, String called) {
-        CHECKS.holds("rules 2, 3 and 6: " + method + " is without " + step, !FORBIDDEN.contains(step));
-        if ((step.equals("new") || step.endsWith("newarray")) && !method.endsWith("<init>")) {
-            MAKERS.add(method);
+    private static void look(Compiled.Code method, Compiled.Step step) {
+        CHECKS.holds("rules 2, 3 and 6: " + method.whole() + " is without " + step.name(), !FORBIDDEN.contains(step.name()));
+        if ((step.name().equals("new") || step.name().endsWith("newarray")) && !method.name().equals("<init>")) {
+            MAKERS.add(method.whole());
         }
-        if (called == null) {
+        Matcher called = CALLED.matcher(step.said());
+        if (!called.matches()) {
             return;
         }
-        String name = called.substring(0, called.indexOf(':')).replace("\"", "");
+        String name = called.group(1).replace("\"", "");
         if (name.startsWith("java/")) {
-            CHECKS.holds("rule 4: " + method + " uses " + name, LIBRARY.contains(name));
+            CHECKS.holds("rule 4: " + method.whole() + " uses " + name, LIBRARY.contains(name));
         } else {
-            CALLS.computeIfAbsent(method, m -> new TreeSet<>()).add(name.contains(".") ? name : owner + "." + name);
+            CALLS.get(method.whole()).add(name.contains(".") ? name : method.owner() + "." + name);
         }
     }
 
